@@ -571,6 +571,8 @@ public final class FewestCauses {
         private static final int SET_BITS = CAUSES;
         private static final int LENGTH_BITS = 4;
         private static final int MOST_LENGTH = (1 << LENGTH_BITS) - 1;
+
+        // Going over wide gaps first keeps the sorting short, also where all is the wrong way round.
         private static final int[] GAPS = {57, 23, 10, 4, 1};
 
         private final Knowledge knowledge;
@@ -657,12 +659,12 @@ public final class FewestCauses {
         void putInOrder() {
             for (int gap : GAPS) {
                 for (int i = gap; i < size; i++) {
-                    sink(i, gap);
+                    bringForward(i, gap);
                 }
             }
         }
 
-        private void sink(int from, int gap) {
+        private void bringForward(int from, int gap) {
             long key = keys[from];
             int at = from;
             while (at >= gap && keys[at - gap] < key) {

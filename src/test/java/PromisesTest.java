@@ -32,6 +32,7 @@ public final class PromisesTest {
         promise22();
         promise22Ties();
         promise23();
+        fewerAfterMany();
         refusalsChangeNothing();
         Due.end();
     }
@@ -135,6 +136,10 @@ public final class PromisesTest {
         for (int what = 0; what < 6; what++) {
             Due.is("4 ofCause(1, " + what + ")", x.ofCause(1, what), due[what]);
         }
+        x.link(5, 1, 1);
+        x.link(6, 1, 2);
+        Due.is("4 all linked", x.ofCause(1, 2), 0b1100011);
+        Due.is("4 MUST alone", x.ofCause(1, 3), 0b1000001);
         x.tell(0, 0);
         Due.is("4 MUST of an ABSENT", x.ofCause(1, 4), 1);
         Due.is("4 MAY of an ABSENT", x.ofCause(0, 4), 0);
@@ -158,6 +163,11 @@ public final class PromisesTest {
         Due.is("5 UNASKED", x.ofFinding(1, 0), 0);
         Due.is("5 linked", x.ofFinding(1, 1), 0b110);
         Due.is("5 must", x.ofFinding(1, 2), 0b100);
+        x.link(11, 9, 2);
+        x.link(11, 8, 1);
+        x.link(11, 0, 2);
+        Due.is("5 linked to 11", x.ofFinding(11, 1), 0b1100000001);
+        Due.is("5 must of 11", x.ofFinding(11, 2), 0b1000000001);
         // The explanations are {0} and {1}.
         Due.is("5 foretold THERE of a told one", x.ofFinding(0, 3), 1);
         Due.is("5 foretold ABSENT of a told one", x.ofFinding(0, 4), 0);
@@ -439,6 +449,12 @@ public final class PromisesTest {
         Due.is("16 fewest", x.fewest(0), 1);
         Due.is("16 most", x.fewest(1), 2);
         Due.is("16 how many", x.fewest(2), 2);
+        x.cause(0, 20, 1);
+        x.cause(2, 20, 1);
+        Due.is("16 the first has the most now", x.explanation(0, 0), 0b101);
+        Due.is("16 fewest of the later", x.fewest(0), 1);
+        Due.is("16 most of the first", x.fewest(1), 2);
+        Due.is("16 how many of the later", x.fewest(2), 2);
         for (int what : new int[] {-1, 3, LEAST, MOST}) {
             Due.is("16 fewest(" + what + ")", x.fewest(what), OUTSIDE);
         }
@@ -459,6 +475,8 @@ public final class PromisesTest {
         Due.is("17 covers(5)", x.covers(0b101), 2);
         Due.is("17 covers(7)", x.covers(0b111), 1);
         Due.is("17 covers(18)", x.covers(0b10010), 1);
+        Due.is("17 covers(3), 0 can be spared", x.covers(0b11), 1);
+        Due.is("17 covers(514), 9 can be spared", x.covers(0b1000000010), 1);
         Due.is("17 covers(1)", x.covers(0b1), 0);
         Due.is("17 covers(0)", x.covers(0), 0);
         x.tell(2, 0);
@@ -551,6 +569,10 @@ public final class PromisesTest {
         x.tell(11, 1);
         x.link(11, 3, 0);
         Due.is("20 no explanation", x.next(), NONE);
+        x.link(11, 0, 1);
+        x.link(11, 2, 1);
+        x.link(0, 0, 2);
+        Due.is("20 finding 0", x.next(), 0);
     }
 
     private static void promise21() {
@@ -656,6 +678,35 @@ public final class PromisesTest {
         for (int what : new int[] {-1, 6, LEAST, MOST}) {
             Due.is("23 many(" + what + ")", x.many(what), OUTSIDE);
         }
+    }
+
+    /** What a longer list held is not counted, when a shorter one follows it. */
+    private static void fewerAfterMany() {
+        FewestCauses x = new FewestCauses();
+        for (int f = 0; f < 5; f++) {
+            x.link(f, 2 * f, 2);
+            x.link(f, 2 * f + 1, 2);
+            Due.is("fewer: tell(" + f + ", 1)", x.tell(f, 1), 2 << f);
+        }
+        for (int f = 4; f > 0; f--) {
+            Due.is("fewer: back()", x.back(), 1 << f);
+            Due.is("fewer: in any", x.sets(1), (1 << 2 * f) - 1);
+            Due.is("fewer: in all", x.sets(0), 0);
+            Due.is("fewer: fewest", x.fewest(0), f);
+            Due.is("fewer: most", x.fewest(1), f);
+            Due.is("fewer: how many", x.fewest(2), 1 << f);
+            Due.is("fewer: with cause 0", x.ofCause(0, 5), 1 << f - 1);
+            Due.is("fewer: with the last", x.ofCause(9, 5), 0);
+            Due.is("fewer: foretold THERE", x.ofFinding(0, 3), 1 << f);
+            Due.is("fewer: foretold ABSENT", x.ofFinding(f, 4), 1 << f);
+            Due.is("fewer: belief", x.belief(1, 1), 2);
+            Due.is("fewer: weights ABSENT", x.split(f, 1), 1 << f);
+            Due.is("fewer: the last", x.weight((1 << f) - 1), 1);
+            Due.is("fewer: one more", x.weight(1 << f), LOST);
+        }
+        Due.is("fewer: back() to the first", x.back(), 1);
+        Due.is("fewer: the empty set, all", x.sets(0), 0);
+        Due.is("fewer: the empty set, any", x.sets(1), 0);
     }
 
     private static void refusalsChangeNothing() {

@@ -4,14 +4,20 @@ final class Due {
 
     private static int wrong = 0;
     private static int looked = 0;
+    private static String about = "";
 
     private Due() { }
+
+    /** What the following answers are looked at for; it is told with each that is wrong. */
+    static void about(String what) {
+        about = what;
+    }
 
     static void is(String call, long got, long want) {
         looked++;
         if (got != want) {
             wrong++;
-            System.out.println(call + " answered " + got + ", due is " + want);
+            System.out.println(about + call + " answered " + got + ", due is " + want);
         }
     }
 
@@ -19,8 +25,12 @@ final class Due {
         looked++;
         if (!held) {
             wrong++;
-            System.out.println("does not hold: " + what);
+            System.out.println(about + "does not hold: " + what);
         }
+    }
+
+    static int looked() {
+        return looked;
     }
 
     static boolean tooManyWrong() {

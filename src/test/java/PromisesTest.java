@@ -37,20 +37,6 @@ public final class PromisesTest {
         Due.end();
     }
 
-    /** Finding 0 by causes 0 (MAY) and 1 (MUST), finding 1 by 1 (MAY) and 2 (MUST), 2 by 0 (MUST). */
-    private static FewestCauses bench() {
-        FewestCauses x = new FewestCauses();
-        x.cause(0, 3, 4);
-        x.cause(1, 2, 5);
-        x.cause(2, 1, 6);
-        x.link(0, 0, 1);
-        x.link(0, 1, 2);
-        x.link(1, 1, 1);
-        x.link(1, 2, 2);
-        x.link(2, 0, 2);
-        return x;
-    }
-
     private static void promise1() {
         FewestCauses x = new FewestCauses();
         for (int c = 0; c < 10; c++) {
@@ -71,7 +57,7 @@ public final class PromisesTest {
         }
         Due.is("1 new explanation(0, 0)", x.explanation(0, 0), 0);
         Due.is("1 new back()", x.back(), STATE);
-        FewestCauses other = bench();
+        FewestCauses other = Bench.small();
         Due.is("1 another object's link", other.many(3), 5);
         Due.is("1 objects are apart", x.many(3), 0);
     }
@@ -129,7 +115,7 @@ public final class PromisesTest {
     }
 
     private static void promise4() {
-        FewestCauses x = bench();
+        FewestCauses x = Bench.small();
         x.tell(0, 1);
         x.tell(1, 1);
         int[] due = {2, 5, 0b11, 0b1, 0, 1};
@@ -155,7 +141,7 @@ public final class PromisesTest {
     }
 
     private static void promise5() {
-        FewestCauses x = bench();
+        FewestCauses x = Bench.small();
         x.tell(0, 1);
         x.tell(3, 0);
         Due.is("5 THERE", x.ofFinding(0, 0), 1);
@@ -184,7 +170,7 @@ public final class PromisesTest {
     }
 
     private static void promise6() {
-        FewestCauses x = bench();
+        FewestCauses x = Bench.small();
         Due.is("6 tell(0, 1)", x.tell(0, 1), 2);
         Due.is("6 tell(0, 1) again", x.tell(0, 1), 2);
         Due.is("6 it counts too", x.many(4), 2);
@@ -203,7 +189,7 @@ public final class PromisesTest {
     }
 
     private static void promise7() {
-        FewestCauses x = bench();
+        FewestCauses x = Bench.small();
         x.tell(0, 1);
         x.tell(2, 0);
         Due.is("7 withdraw(2)", x.withdraw(2), 2);
@@ -217,7 +203,7 @@ public final class PromisesTest {
     }
 
     private static void promise8() {
-        FewestCauses x = bench();
+        FewestCauses x = Bench.small();
         Due.is("8 nothing to be", x.back(), STATE);
         x.tell(0, 0);
         x.tell(0, 1);
@@ -259,7 +245,7 @@ public final class PromisesTest {
     }
 
     private static void promise9() {
-        FewestCauses x = bench();
+        FewestCauses x = Bench.small();
         Due.is("9 none", x.anew(), 0);
         x.tell(0, 1);
         x.tell(1, 0);
@@ -318,7 +304,7 @@ public final class PromisesTest {
     }
 
     private static void promise11() {
-        FewestCauses x = bench();
+        FewestCauses x = Bench.small();
         Due.is("11 of the empty set", x.weight(0), 4 * 5 * 6);
         x.tell(0, 1);
         Due.is("11 of {0}", x.weight(0), 3 * 5 * 6);
@@ -335,7 +321,7 @@ public final class PromisesTest {
     }
 
     private static void promise12() {
-        FewestCauses x = bench();
+        FewestCauses x = Bench.small();
         Due.is("12 one alone, upper", x.share(0, 0), 1);
         Due.is("12 one alone, lower", x.share(0, 1), 1);
         x.tell(0, 1);
@@ -355,7 +341,7 @@ public final class PromisesTest {
     }
 
     private static void promise13() {
-        FewestCauses x = bench();
+        FewestCauses x = Bench.small();
         x.link(3, 0, 1);
         x.link(3, 1, 1);
         x.link(3, 2, 1);
@@ -383,7 +369,7 @@ public final class PromisesTest {
     }
 
     private static void promise14() {
-        FewestCauses x = bench();
+        FewestCauses x = Bench.small();
         Due.is("14 empty set, in all", x.sets(0), 0);
         Due.is("14 empty set, in any", x.sets(1), 0);
         x.tell(0, 1);
@@ -409,7 +395,7 @@ public final class PromisesTest {
     }
 
     private static void promise15() {
-        FewestCauses x = bench();
+        FewestCauses x = Bench.small();
         Due.is("15 0 by 1, upper", x.belief(0, 0), 0);
         Due.is("15 0 by 1, lower", x.belief(0, 1), 1);
         x.tell(0, 1);
@@ -436,7 +422,7 @@ public final class PromisesTest {
     }
 
     private static void promise16() {
-        FewestCauses x = bench();
+        FewestCauses x = Bench.small();
         Due.is("16 empty, fewest", x.fewest(0), 0);
         Due.is("16 empty, most", x.fewest(1), 0);
         Due.is("16 empty, how many", x.fewest(2), 1);
@@ -466,7 +452,7 @@ public final class PromisesTest {
     }
 
     private static void promise17() {
-        FewestCauses x = bench();
+        FewestCauses x = Bench.small();
         Due.is("17 covers(0) of nothing", x.covers(0), 2);
         Due.is("17 covers(1023) of nothing", x.covers(1023), 1);
         x.tell(0, 1);
@@ -489,7 +475,7 @@ public final class PromisesTest {
     }
 
     private static void promise18() {
-        FewestCauses x = bench();
+        FewestCauses x = Bench.small();
         Due.is("18 nothing is there", x.unexplained(), 0);
         x.tell(0, 1);
         x.tell(11, 1);
@@ -505,7 +491,7 @@ public final class PromisesTest {
     }
 
     private static void promise19() {
-        FewestCauses x = bench();
+        FewestCauses x = Bench.small();
         x.tell(0, 1);
         x.tell(1, 1);
         x.link(3, 1, 2);
@@ -541,7 +527,7 @@ public final class PromisesTest {
     }
 
     private static void promise20() {
-        FewestCauses x = bench();
+        FewestCauses x = Bench.small();
         Due.is("20 one explanation", x.next(), NONE);
         x.tell(0, 1);
         // {0} weighs 90, {1} weighs 48: 1 is OPEN for {1}, 2 is there by {0} alone.
@@ -576,7 +562,7 @@ public final class PromisesTest {
     }
 
     private static void promise21() {
-        FewestCauses x = bench();
+        FewestCauses x = Bench.small();
         x.tell(0, 1);
         x.tell(1, 1);
         Due.is("21 would(2, 1)", x.would(2, 1), 2);
@@ -663,7 +649,7 @@ public final class PromisesTest {
     }
 
     private static void promise23() {
-        FewestCauses x = bench();
+        FewestCauses x = Bench.small();
         x.tell(0, 1);
         x.tell(1, 1);
         x.tell(11, 0);
@@ -710,7 +696,7 @@ public final class PromisesTest {
     }
 
     private static void refusalsChangeNothing() {
-        FewestCauses x = bench();
+        FewestCauses x = Bench.small();
         x.tell(0, 1);
         x.tell(1, 1);
         x.cause(0, 0, 9);
